@@ -7,9 +7,12 @@ public final class AdvanceTest {
         gatesInTheirOrder();
         waitIsSetByStatusBehindAllFour();
         manyServedInOneTick();
-        endInTheTickOfService();
-        edges();
-        wrongInputs();
+        noTick();
+        oneTick();
+        mostTicks();
+        manyTicksAreAsManyByOne();
+        idleIsNotCounted();
+        ticksAre0To20000();
         Due.finish("AdvanceTest");
     }
 
@@ -55,18 +58,8 @@ public final class AdvanceTest {
         Due.due("count of 5 is its period", x.timer(5, 0), 4);
     }
 
-    private static TimerGates allUp() {
-        TimerGates x = new TimerGates();
-        for (int t = 0; t < 8; t++) {
-            x.set(t, 0, 1, true);
-            x.turn(t, true);
-        }
-        x.advance(1);
-        return x;
-    }
-
     private static void leastBitFirst() {
-        TimerGates x = allUp();
+        TimerGates x = Due.withStatus(255);
         x.gate(0, 0b11010110, 1);
         int[] want = {1, 2, 4, 6, 7};
         Due.due("tick in which it begins to wait", x.advance(1), 0);
@@ -80,7 +73,7 @@ public final class AdvanceTest {
     }
 
     private static void gatesInTheirOrder() {
-        TimerGates x = allUp();
+        TimerGates x = Due.withStatus(255);
         for (int g = 0; g < 4; g++) {
             x.gate(g, 255, 3);
         }
@@ -119,7 +112,7 @@ public final class AdvanceTest {
     }
 
     private static void manyServedInOneTick() {
-        TimerGates x = allUp();
+        TimerGates x = Due.withStatus(255);
         for (int g = 0; g < 4; g++) {
             x.gate(g, 3 << 2 * g, 1);
         }
@@ -128,31 +121,52 @@ public final class AdvanceTest {
         Due.due("now", x.look(1), 11);
     }
 
-    private static void endInTheTickOfService() {
+    /** "n TICKS (0 .. 20000)": 0 of them change nothing, whatever is about to happen. */
+    private static void noTick() {
+        Due.changesNothing("advance(0)", TimerGates::new, x -> Due.due("advance(0)", x.advance(0), 0));
+        Due.changesNothing("advance(0)", Due::busy, x -> Due.due("advance(0)", x.advance(0), 0));
+        Due.changesNothing("advance(0)", Due::full, x -> Due.due("advance(0)", x.advance(0), 0));
         TimerGates x = new TimerGates();
-        x.set(0, 0, 2, false);
-        x.turn(0, true);
-        x.gate(0, 1, 2);
-        x.advance(4);
-        Due.due("the end comes before the service", x.timer(0, 6), 1);
-        Due.due("served", x.timer(0, 7), 1);
-        Due.due("status", x.look(0), 0);
-        Due.due("rests", x.gateOf(0, 1), 0);
+        x.gate(0, 1, 1);
+        Due.raise(x, 1);
+        Due.due("advance(0) a tick before a service", x.advance(0), 0);
+        Due.due("advance(1)", x.advance(1), 1);
     }
 
-    private static void edges() {
+    private static void oneTick() {
+        TimerGates x = new TimerGates();
+        x.turn(7, true);
+        Due.due("advance(1)", x.advance(1), 0);
+        Due.due("now", x.look(1), 1);
+        Due.due("ended", x.timer(7, 5), 1);
+    }
+
+    /** "n TICKS (0 .. 20000)", with the services in the very last of them, and behind it. */
+    private static void mostTicks() {
+        TimerGates x = new TimerGates();
+        x.turn(0, true);
+        x.gate(0, 1, 1);
+        Due.due("advance(20000)", x.advance(20000), 10000);
+        Due.due("now", x.look(1), 20000);
+        Due.due("ended", x.timer(0, 5), 20000);
+        Due.due("advance(19999)", x.advance(19999), 9999);
+        Due.due("now", x.look(1), 39999);
+
+        TimerGates last = new TimerGates();
+        last.set(0, 0, 19999, true);
+        last.turn(0, true);
+        last.gate(0, 1, 1);
+        Due.due("advance(20000), a service in the last tick", last.advance(20000), 1);
+        TimerGates behind = new TimerGates();
+        behind.set(0, 0, 20000, true);
+        behind.turn(0, true);
+        behind.gate(0, 1, 1);
+        Due.due("advance(20000), a service behind it", behind.advance(20000), 0);
+        Due.due("advance(1)", behind.advance(1), 1);
+    }
+
+    private static void manyTicksAreAsManyByOne() {
         TimerGates x = Due.busy();
-        String before = Due.state(x);
-        Due.due("advance(0)", x.advance(0), 0);
-        Due.same("advance(0)", Due.state(x), before);
-        TimerGates y = new TimerGates();
-        y.turn(0, true);
-        y.gate(0, 1, 1);
-        Due.due("advance(20000)", y.advance(20000), 10000);
-        Due.due("now", y.look(1), 20000);
-        Due.due("ended", y.timer(0, 5), 20000);
-        Due.due("advance(19999)", y.advance(19999), 9999);
-        Due.due("now", y.look(1), 39999);
         TimerGates byOnes = Due.busy();
         int sum = 0;
         for (int i = 0; i < 300; i++) {
@@ -162,14 +176,24 @@ public final class AdvanceTest {
         Due.same("advance(300)", Due.state(x), Due.state(byOnes));
     }
 
-    private static void wrongInputs() {
-        TimerGates x = Due.busy();
-        String before = Due.state(x);
-        Due.due("advance(-1)", x.advance(-1), -1);
-        Due.due("advance(20001)", x.advance(20001), -1);
-        for (int w : Due.WILD) {
-            Due.due("advance(" + w + ")", x.advance(w), -1);
+    /** "how often a GATE has SERVED a BIT": one that was IDLE has not. */
+    private static void idleIsNotCounted() {
+        TimerGates x = new TimerGates();
+        x.gate(0, 1, 1);
+        x.gate(1, 1, 1);
+        Due.raise(x, 1);
+        Due.due("one serves, one is idle", x.advance(1), 1);
+        Due.due("idle", x.gateOf(1, 5), 1);
+    }
+
+    /** "NONE for another n." */
+    private static void ticksAre0To20000() {
+        int[] noCount = {-20000, -1, 20001, 20002, 40000, 65536};
+        for (int n : noCount) {
+            Due.none("advance(" + n + ")", x -> x.advance(n));
         }
-        Due.same("wrong advances", Due.state(x), before);
+        for (int w : Due.WILD) {
+            Due.none("advance(" + w + ")", x -> x.advance(w));
+        }
     }
 }

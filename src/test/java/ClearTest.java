@@ -2,26 +2,16 @@
 public final class ClearTest {
     public static void main(String[] args) {
         ordinary();
+        everySetOfEveryStatus();
+        emptySetChangesNothing();
         gateThatWaitsGoesOn();
         clearedIsNotMissed();
-        wrongInputs();
+        setsAre0To255();
         Due.finish("ClearTest");
     }
 
-    private static TimerGates withStatus(int status) {
-        TimerGates x = new TimerGates();
-        for (int t = 0; t < 8; t++) {
-            if ((status >> t & 1) == 1) {
-                x.set(t, 0, 1, true);
-                x.turn(t, true);
-            }
-        }
-        x.advance(1);
-        return x;
-    }
-
     private static void ordinary() {
-        TimerGates x = withStatus(0b10110101);
+        TimerGates x = Due.withStatus(0b10110101);
         Due.due("status", x.look(0), 0b10110101);
         Due.due("clear(0)", x.clear(0), 0);
         Due.due("clear of those that are 0", x.clear(0b01001010), 0);
@@ -36,12 +26,33 @@ public final class ClearTest {
         }
         Due.due("served in all", x.look(2), 0);
         Due.due("served(0, 0)", x.served(0, 0), -1);
-        TimerGates all = withStatus(255);
-        Due.due("clear(255) of 255", all.clear(255), 255);
+    }
+
+    /** "BITS of a set become 0 in STATUS, those that are 1 are CLEARED: they." */
+    private static void everySetOfEveryStatus() {
+        for (int status = 0; status <= 255; status++) {
+            for (int set = 0; set <= 255; set++) {
+                TimerGates x = Due.withStatus(status);
+                String call = "clear(" + set + ") of " + status;
+                Due.due(call, x.clear(set), status & set);
+                Due.due(call + ": look(0)", x.look(0), status & ~set);
+                for (int t = 0; t < 8; t++) {
+                    Due.due(call + ": timer(" + t + ", 8)", x.timer(t, 8), (status & set) >> t & 1);
+                }
+            }
+        }
+    }
+
+    /** Nothing is CLEARED by an empty set, nor by one whose bits are all 0 in STATUS. */
+    private static void emptySetChangesNothing() {
+        Due.changesNothing("clear(0)", Due::full, x -> Due.due("clear(0)", x.clear(0), 0));
+        Due.changesNothing("clear of those that are 0", Due::full,
+            x -> Due.due("clear of those that are 0", x.clear(255 - x.look(0)), 0));
+        Due.changesNothing("clear(255) of 0", TimerGates::new, x -> Due.due("clear(255) of 0", x.clear(255), 0));
     }
 
     private static void gateThatWaitsGoesOn() {
-        TimerGates x = withStatus(1);
+        TimerGates x = Due.withStatus(1);
         x.gate(0, 1, 3);
         x.advance(1);
         Due.due("clear(1)", x.clear(1), 1);
@@ -54,7 +65,7 @@ public final class ClearTest {
     }
 
     private static void clearedIsNotMissed() {
-        TimerGates x = withStatus(8);
+        TimerGates x = Due.withStatus(8);
         x.clear(8);
         x.turn(3, true);
         x.advance(1);
@@ -67,16 +78,16 @@ public final class ClearTest {
         Due.due("cleared twice", x.timer(3, 8), 2);
     }
 
-    private static void wrongInputs() {
-        TimerGates x = withStatus(255);
-        String before = Due.state(x);
-        Due.due("clear(-1)", x.clear(-1), -1);
-        Due.due("clear(256)", x.clear(256), -1);
-        Due.due("clear(257)", x.clear(257), -1);
-        Due.due("clear(511)", x.clear(511), -1);
-        for (int w : Due.WILD) {
-            Due.due("clear(" + w + ")", x.clear(w), -1);
+    /** "NONE if it is not 0 .. 255", even where its lower bits are 1 in STATUS. */
+    private static void setsAre0To255() {
+        int[] noSet = {-256, -255, -1, 256, 257, 511, 512, 65535};
+        for (int set : noSet) {
+            Due.none("clear(" + set + ")", x -> x.clear(set));
+            Due.changesNothing("clear(" + set + ") of 255", () -> Due.withStatus(255),
+                x -> Due.due("clear(" + set + ") of 255", x.clear(set), -1));
         }
-        Due.same("wrong clears", Due.state(x), before);
+        for (int w : Due.WILD) {
+            Due.none("clear(" + w + ")", x -> x.clear(w));
+        }
     }
 }

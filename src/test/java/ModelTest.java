@@ -4,71 +4,134 @@ import java.util.Random;
 
 /** Long mixed runs against a second, slow writing-down of the document, by fixed seeds. */
 public final class ModelTest {
-    private static final int RUNS = 400;
-    private static final int CALLS = 300;
+    private static final int RUNS = 3000;
+    // With the reads of all at the end no object has more than 512 calls.
+    private static final int CALLS = 360;
+    private static final int[] PERIODS = {-1, 0, 1, 1, 2, 3, 65535, 65536};
+    private static final int[] MASKS = {-1, 0, 1, 128, 254, 255, 255, 256};
+    private static final int[] DELAYS = {-1, 0, 1, 1, 2, 999, 1000, 1001};
+    private static final int[] COUNTS = {-1, 0, 1, 999, 1000, 1001, 19999, 20000, 20001};
+
+    private final Random random;
+    private final TimerGates x = new TimerGates();
+    private final Model model = new Model();
+    private final List<String> calls = new ArrayList<>();
+    private boolean same = true;
+
+    private ModelTest(int seed) {
+        random = new Random(seed);
+    }
 
     public static void main(String[] args) {
         for (int seed = 0; seed < RUNS; seed++) {
-            run(new Random(seed));
+            new ModelTest(seed).run();
         }
         Due.finish("ModelTest");
     }
 
-    private static void run(Random r) {
-        TimerGates x = new TimerGates();
-        Model m = new Model();
-        for (int call = 0; call < CALLS; call++) {
-            step(r, x, m);
-            if (!Due.state(x).equals(m.state())) {
-                Due.same("a run by " + m.calls, Due.state(x), m.state());
-                return;
+    private void run() {
+        for (int call = 0; call < CALLS && same; call++) {
+            if (random.nextInt(4) == 0) {
+                read(random.nextInt(4), edge(10, 16), edge(4, 9));
+            } else {
+                change();
+            }
+        }
+        readAll();
+    }
+
+    private void compare(String call, int got, int want) {
+        calls.add(call);
+        if (got != want && same) {
+            same = false;
+            Due.tell(calls + " answered " + got + ", due is " + want);
+        }
+    }
+
+    private void compare(String call, boolean got, boolean want) {
+        compare(call, got ? 1 : 0, want ? 1 : 0);
+    }
+
+    /** Mostly 0 .. size - 1, now and then a little outside. */
+    private int edge(int oneIn, int size) {
+        return random.nextInt(oneIn) == 0 ? random.nextInt(size + 4) - 2 : random.nextInt(size);
+    }
+
+    private int oneOf(int[] row) {
+        return row[random.nextInt(row.length)];
+    }
+
+    private void change() {
+        int t = edge(12, 8);
+        int g = edge(12, 4);
+        switch (random.nextInt(8)) {
+            case 0, 1 -> set(t, edge(8, 2), random.nextInt(9) == 0 ? oneOf(PERIODS) : 1 + random.nextInt(6));
+            case 2, 3 -> {
+                boolean runs = random.nextInt(5) != 0;
+                compare("turn(" + t + ", " + runs + ")", x.turn(t, runs), model.turn(t, runs));
+            }
+            case 4 -> {
+                int mask = random.nextInt(6) == 0 ? oneOf(MASKS) : random.nextInt(256);
+                int delay = random.nextInt(6) == 0 ? oneOf(DELAYS) : 1 + random.nextInt(8);
+                compare("gate(" + g + ", " + mask + ", " + delay + ")", x.gate(g, mask, delay), model.gate(g, mask, delay));
+            }
+            case 5 -> {
+                int set = random.nextInt(3) == 0 ? oneOf(MASKS) : random.nextInt(256);
+                compare("clear(" + set + ")", x.clear(set), model.clear(set));
+            }
+            case 6 -> {
+                int n = count();
+                compare("advance(" + n + ")", x.advance(n), model.advance(n));
+            }
+            default -> {
+                int n = count();
+                compare("next(" + n + ")", x.next(n), model.next(n));
             }
         }
     }
 
-    private static void step(Random r, TimerGates x, Model m) {
-        int t = r.nextInt(10) == 0 ? r.nextInt(12) - 2 : r.nextInt(8);
-        int g = r.nextInt(10) == 0 ? r.nextInt(8) - 2 : r.nextInt(4);
-        switch (r.nextInt(8)) {
-            case 0, 1 -> {
-                int source = r.nextInt(8) == 0 ? r.nextInt(5) - 1 : r.nextInt(2);
-                int period = r.nextInt(12) == 0 ? r.nextInt(70000) - 2000 : r.nextInt(7);
-                boolean once = r.nextInt(3) == 0;
-                m.calls.add("set(" + t + ", " + source + ", " + period + ", " + once + ")");
-                Due.due(m.calls.toString(), x.set(t, source, period, once), m.set(t, source, period, once));
+    private void set(int t, int source, int period) {
+        boolean once = random.nextInt(3) == 0;
+        String call = "set(" + t + ", " + source + ", " + period + ", " + once + ")";
+        compare(call, x.set(t, source, period, once), model.set(t, source, period, once));
+    }
+
+    private int count() {
+        return random.nextInt(100) == 0 ? oneOf(COUNTS) : random.nextInt(22) - 1;
+    }
+
+    private void read(int kind, int a, int what) {
+        switch (kind) {
+            case 0 -> compare("timer(" + a / 2 + ", " + what + ")", x.timer(a / 2, what), model.timer(a / 2, what));
+            case 1 -> compare("gateOf(" + a / 4 + ", " + what + ")", x.gateOf(a / 4, what), model.gateOf(a / 4, what));
+            case 2 -> compare("look(" + what + ")", x.look(what), model.look(what));
+            default -> compare("served(" + a + ", " + what + ")", x.served(a, what), model.served(a, what));
+        }
+    }
+
+    private void readAll() {
+        for (int t = 0; t < 8; t++) {
+            for (int what = 0; what < 9; what++) {
+                read(0, 2 * t, what);
             }
-            case 2, 3 -> {
-                boolean runs = r.nextInt(5) != 0;
-                m.calls.add("turn(" + t + ", " + runs + ")");
-                Due.due(m.calls.toString(), x.turn(t, runs), m.turn(t, runs));
+        }
+        for (int g = 0; g < 4; g++) {
+            for (int what = 0; what < 7; what++) {
+                read(1, 4 * g, what);
             }
-            case 4 -> {
-                int mask = r.nextInt(8) == 0 ? r.nextInt(600) - 100 : r.nextInt(256);
-                int delay = r.nextInt(8) == 0 ? r.nextInt(1200) - 100 : r.nextInt(9);
-                m.calls.add("gate(" + g + ", " + mask + ", " + delay + ")");
-                Due.due(m.calls.toString(), x.gate(g, mask, delay), m.gate(g, mask, delay));
-            }
-            case 5 -> {
-                int set = r.nextInt(300) - 20;
-                m.calls.add("clear(" + set + ")");
-                Due.due(m.calls.toString(), x.clear(set), m.clear(set));
-            }
-            case 6 -> {
-                int n = r.nextInt(20) - 2;
-                m.calls.add("advance(" + n + ")");
-                Due.due(m.calls.toString(), x.advance(n), m.advance(n));
-            }
-            default -> {
-                int n = r.nextInt(30) - 2;
-                m.calls.add("next(" + n + ")");
-                Due.due(m.calls.toString(), x.next(n), m.next(n));
+        }
+        for (int what = 0; what < 4; what++) {
+            read(2, 0, what);
+        }
+        for (int i = 0; i < 16; i++) {
+            for (int what = 0; what < 3; what++) {
+                read(3, i, what);
             }
         }
     }
 
     /** Status is a row of booleans and "rests" and "just served" are marks of their own, unlike in the class. */
     private static final class Model {
-        final List<String> calls = new ArrayList<>();
         final int[][] timer = new int[8][9];
         final int[][] gate = new int[4][7];
         final boolean[] rests = {true, true, true, true};
@@ -216,36 +279,51 @@ public final class ModelTest {
             return -1;
         }
 
-        String state() {
-            StringBuilder s = new StringBuilder();
-            for (int t = 0; t < 8; t++) {
-                s.append(" T").append(t);
-                for (int v : timer[t]) {
-                    s.append(' ').append(v);
-                }
+        int timer(int t, int what) {
+            return t < 0 || t > 7 || what < 0 || what > 8 ? -1 : timer[t][what];
+        }
+
+        int gateOf(int g, int what) {
+            if (g < 0 || g > 3 || what < 0 || what > 6) {
+                return -1;
             }
-            for (int g = 0; g < 4; g++) {
-                gate[g][0] = asked(g) >= 0 ? 1 : 0;
-                s.append(" G").append(g);
-                for (int v : gate[g]) {
-                    s.append(' ').append(v);
-                }
+            if (what == 0) {
+                return asked(g) >= 0 ? 1 : 0;
             }
+            return gate[g][what];
+        }
+
+        int look(int what) {
+            return switch (what) {
+                case 0 -> status();
+                case 1 -> now;
+                case 2 -> log.size();
+                case 3 -> soonest();
+                default -> -1;
+            };
+        }
+
+        int served(int i, int what) {
+            boolean there = 0 <= i && i <= 15 && i < log.size() && 0 <= what && what <= 2;
+            return there ? log.get(log.size() - 1 - i)[what] : -1;
+        }
+
+        int status() {
             int status = 0;
-            int soonest = 0;
             for (int t = 7; t >= 0; t--) {
                 status = 2 * status + (up[t] ? 1 : 0);
-                if (timer[t][3] == 1 && timer[t][2] == 0) {
-                    soonest = soonest == 0 ? timer[t][0] : Math.min(soonest, timer[t][0]);
+            }
+            return status;
+        }
+
+        int soonest() {
+            int soonest = 0;
+            for (int[] t : timer) {
+                if (t[3] == 1 && t[2] == 0) {
+                    soonest = soonest == 0 ? t[0] : Math.min(soonest, t[0]);
                 }
             }
-            s.append(" L ").append(status).append(' ').append(now).append(' ').append(log.size());
-            s.append(' ').append(soonest).append(" S");
-            for (int i = 0; i < 16; i++) {
-                int[] e = i < log.size() ? log.get(log.size() - 1 - i) : new int[] {-1, -1, -1};
-                s.append(' ').append(e[0]).append('/').append(e[1]).append('/').append(e[2]);
-            }
-            return s.toString();
+            return soonest;
         }
     }
 }

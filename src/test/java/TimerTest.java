@@ -4,7 +4,9 @@ public final class TimerTest {
         allOfOne();
         countGoesDown();
         numbersAreOfTheTimerItself();
-        wrongInputs();
+        from0To1();
+        timersAre0To7();
+        whatsAre0To8();
         Due.finish("TimerTest");
     }
 
@@ -55,24 +57,66 @@ public final class TimerTest {
         }
     }
 
-    private static void wrongInputs() {
-        TimerGates x = Due.busy();
-        String before = Due.state(x);
-        int[] noTimer = {-1, 8, 9, 32};
-        for (int t : noTimer) {
-            for (int what = 0; what < 9; what++) {
-                Due.due("timer(" + t + ", " + what + ")", x.timer(t, what), -1);
+    /** "1 if it RUNS, else 0", "1 if it is ONCE", and the four numbers from 0 to 1. */
+    private static void from0To1() {
+        TimerGates x = new TimerGates();
+        due(x, "at first", 1, 1, 0, 0, 0, 0, 0, 0, 0);
+        x.set(5, 0, 2, true);
+        due(x, "set", 2, 2, 0, 0, 1, 0, 0, 0, 0);
+        x.turn(5, true);
+        due(x, "turned", 2, 2, 0, 1, 1, 0, 0, 0, 0);
+        x.advance(1);
+        due(x, "a tick before its end", 1, 2, 0, 1, 1, 0, 0, 0, 0);
+        x.advance(1);
+        due(x, "ended", 2, 2, 0, 0, 1, 1, 0, 0, 0);
+        Due.raise(x, 32);
+        due(x, "missed", 1, 1, 0, 0, 1, 2, 1, 0, 0);
+        x.clear(32);
+        due(x, "cleared", 1, 1, 0, 0, 1, 2, 1, 0, 1);
+        x.clear(32);
+        due(x, "cleared when it was 0", 1, 1, 0, 0, 1, 2, 1, 0, 1);
+        Due.raise(x, 32);
+        x.gate(0, 32, 1);
+        x.advance(1);
+        due(x, "a tick before its service", 1, 1, 0, 0, 1, 3, 1, 0, 1);
+        x.advance(1);
+        due(x, "served", 1, 1, 0, 0, 1, 3, 1, 1, 1);
+    }
+
+    private static void due(TimerGates x, String when, int... want) {
+        for (int what = 0; what < 9; what++) {
+            Due.due(when + ": timer(5, " + what + ")", x.timer(5, what), want[what]);
+        }
+    }
+
+    /** "NONE if there is none such": t is 0 .. 7. */
+    private static void timersAre0To7() {
+        int[] noTimer = {-8, -1, 8, 9, 15, 16, 32};
+        for (int what = 0; what < 9; what++) {
+            int read = what;
+            for (int t : noTimer) {
+                Due.none("timer(" + t + ", " + what + ")", x -> x.timer(t, read));
+            }
+            TimerGates x = Due.full();
+            for (int t = 0; t < 8; t++) {
+                Due.due("timer(" + t + ", " + what + ") is there", x.timer(t, what) >= 0, true);
             }
         }
+    }
+
+    /** "NONE if .. no such what": what is 0 .. 8. */
+    private static void whatsAre0To8() {
+        int[] noWhat = {-9, -1, 9, 10, 16, 255};
         for (int t = 0; t < 8; t++) {
-            Due.due("timer(" + t + ", -1)", x.timer(t, -1), -1);
-            Due.due("timer(" + t + ", 9)", x.timer(t, 9), -1);
+            int timer = t;
+            for (int what : noWhat) {
+                Due.none("timer(" + t + ", " + what + ")", x -> x.timer(timer, what));
+            }
         }
         for (int w : Due.WILD) {
-            Due.due("timer(" + w + ", 0)", x.timer(w, 0), -1);
-            Due.due("timer(0, " + w + ")", x.timer(0, w), -1);
-            Due.due("timer(" + w + ", " + w + ")", x.timer(w, w), -1);
+            Due.none("timer(" + w + ", 0)", x -> x.timer(w, 0));
+            Due.none("timer(0, " + w + ")", x -> x.timer(0, w));
+            Due.none("timer(" + w + ", " + w + ")", x -> x.timer(w, w));
         }
-        Due.same("reads of timers", Due.state(x), before);
     }
 }
